@@ -1,44 +1,45 @@
 /** Promise 2: bag makes a receptacle more, at most 60. */
 public final class Promise02BagTest {
   public static void main(String[] args) {
-    kinds();
+    itsNumber();
+    kindOutside();
     room();
-    newReceptacle();
     Check.end();
   }
 
-  private static void kinds() {
+  private static void itsNumber() {
+    Check.sentence("A receptacle more: its number");
     BagRows x = new BagRows();
-    Check.due("bag(-1)", x.bag(-1), BagRows.OUTSIDE);
-    Check.due("bag(4)", x.bag(4), BagRows.OUTSIDE);
-    Check.due("bag(least)", x.bag(Integer.MIN_VALUE), BagRows.OUTSIDE);
-    Check.due("bag(greatest)", x.bag(Integer.MAX_VALUE), BagRows.OUTSIDE);
-    for (int kind = 0; kind <= 3; kind++) {
-      Check.due("bag(" + kind + ")", x.bag(kind), 1001 + kind);
-      Check.due("weight", x.weight(1001 + kind, 100 * kind + 100), 1);
+    for (int i = 0; i < 60; i++) {
+      Check.due("bag(" + i % 4 + ")", x.bag(i % 4), 1001 + i);
+      Check.due("inside of it", x.inside(1001 + i), 0);
+      Check.due("inside of the next", x.inside(1002 + i), BagRows.UNKNOWN);
     }
+  }
+
+  private static void kindOutside() {
+    Check.sentence("OUTSIDE (a kind is not 0 .. 3)");
+    BagRows x = new BagRows();
+    int[] outside = {-1, 4, -4, 1001, Integer.MIN_VALUE, Integer.MAX_VALUE};
+    for (int kind : outside) {
+      Check.due("bag(" + kind + ")", x.bag(kind), BagRows.OUTSIDE);
+    }
+    Check.due("bag(0), after those that were refused", x.bag(0), 1001);
+    Check.due("bag(3)", x.bag(3), 1002);
   }
 
   private static void room() {
+    Check.sentence("ROOM, as there are 60 receptacles at most");
     BagRows x = new BagRows();
     for (int i = 1; i <= 60; i++) {
-      Check.due("bag(" + i % 4 + ")", x.bag(i % 4), 1000 + i);
+      Check.due("bag(0), number " + i, x.bag(0), 1000 + i);
     }
-    Check.due("bag(0) of 61", x.bag(0), BagRows.ROOM);
-    Check.due("bag(3) of 61", x.bag(3), BagRows.ROOM);
-    Check.due("bag(4) of 61", x.bag(4), BagRows.OUTSIDE);
+    for (int kind = 0; kind <= 3; kind++) {
+      Check.due("bag(" + kind + "), number 61", x.bag(kind), BagRows.ROOM);
+    }
     Check.due("inside(1060)", x.inside(1060), 0);
     Check.due("inside(1061)", x.inside(1061), BagRows.UNKNOWN);
-    Check.due("into(1060, 1061)", x.into(1060, 1061), BagRows.UNKNOWN);
-  }
-
-  private static void newReceptacle() {
-    BagRows x = Check.withKinds(2);
-    Check.due("place(1001)", x.place(1001), 0);
-    Check.due("inside(1001)", x.inside(1001), 0);
-    Check.due("document(1001, 0)", x.document(1001, 0), 0);
-    Check.due("open", x.open(1001, 1, 0, 1), BagRows.STATE);
-    Check.due("move(1001, 1)", x.move(1001, 1), BagRows.STATE);
-    Check.due("close of an empty one", x.close(1001, 1, 0), 0);
+    Check.into(x, 1060, 1);
+    Check.weighs(x, 1060, 115);
   }
 }

@@ -1,36 +1,48 @@
 /** Promise 9: inside tells the receptacle in which a thing lies. */
 public final class Promise09InsideTest {
   public static void main(String[] args) {
-    ordinary();
+    inWhichItLies();
+    none();
     unknown();
     Check.end();
   }
 
-  private static void ordinary() {
-    BagRows x = Check.withKinds(0, 1, 2);
-    Check.due("inside(1)", x.inside(1), 0);
-    Check.due("inside(999)", x.inside(999), 0);
-    Check.due("inside(1001)", x.inside(1001), 0);
-    Check.due("into(1001, 999)", x.into(1001, 999), 1);
-    Check.due("into(1002, 1001)", x.into(1002, 1001), 1);
-    Check.due("into(1003, 1002)", x.into(1003, 1002), 1);
+  private static void inWhichItLies() {
+    Check.sentence("The receptacle in which a thing lies");
+    BagRows x = Check.nested();
+    Check.into(x, 1001, 999);
+    Check.into(x, 1004, 1);
     Check.due("inside(999), the innermost", x.inside(999), 1001);
-    Check.due("inside(1001)", x.inside(1001), 1002);
-    Check.due("inside(1002)", x.inside(1002), 1003);
-    Check.due("inside(1003)", x.inside(1003), 0);
-    Check.due("close(1003)", x.close(1003, 1, 0), 1);
+    Check.due("inside(1)", x.inside(1), 1004);
+    for (int bag = 1001; bag <= 1003; bag++) {
+      Check.due("inside(" + bag + ")", x.inside(bag), bag + 1);
+    }
+    Check.close(x, 1004);
     Check.due("inside(999), closed", x.inside(999), 1001);
-    Check.due("open(1003)", x.open(1003, 1, 0, 1), 1);
-    Check.due("take(999)", x.take(999), 1001);
-    Check.due("inside(999), taken", x.inside(999), 0);
-    Check.due("found(1003, 999)", x.found(1003, 999), 0);
-    Check.due("inside(999), found", x.inside(999), 1003);
+    Check.open(x, 1004, 3);
+    Check.due("found(1004, 999)", x.found(1004, 999), 0);
+    Check.due("inside(999), found", x.inside(999), 1004);
+  }
+
+  private static void none() {
+    Check.sentence("0 for none");
+    BagRows x = Check.withKinds(0, 1);
+    int[] things = {1, 999, 1001, 1002};
+    for (int thing : things) {
+      Check.due("inside(" + thing + ")", x.inside(thing), 0);
+    }
+    Check.into(x, 1002, 1, 1001);
+    Check.due("inside(1002), it lies in none itself", x.inside(1002), 0);
+    Check.due("take(1)", x.take(1), 1002);
+    Check.due("take(1001)", x.take(1001), 1002);
+    Check.due("inside(1), taken out", x.inside(1), 0);
+    Check.due("inside(1001), taken out", x.inside(1001), 0);
   }
 
   private static void unknown() {
+    Check.sentence("inside: UNKNOWN");
     BagRows x = Check.withKinds(0);
-    int[] noThings = {0, -1, 1000, 1002, 1060, 1061, Integer.MIN_VALUE, Integer.MAX_VALUE};
-    for (int number : noThings) {
+    for (int number : Unknown.things()) {
       Check.due("inside(" + number + ")", x.inside(number), BagRows.UNKNOWN);
     }
   }

@@ -1,92 +1,76 @@
 /** Promise 10: weight compares what is measured with what a receptacle weighs. */
 public final class Promise10WeightTest {
   public static void main(String[] args) {
-    empty();
-    items();
-    allThatLiesInIt();
-    whileClosedOrInside();
-    notes();
-    refusals();
+    fiftiethAway();
+    fiftiethIsCut();
+    closedOrInAnother();
+    unknown();
+    measuredOutside();
     Check.end();
   }
 
-  /** Both edges of what counts as right for a receptacle of this weight. */
-  private static void weighs(BagRows x, int bag, long due) {
-    long off = due / 50;
-    Check.due(bag + " of " + due + ", exact", x.weight(bag, due), 1);
-    Check.due(bag + " of " + due + ", most", x.weight(bag, due + off), 1);
-    Check.due(bag + " of " + due + ", too much", x.weight(bag, due + off + 1), 0);
-    Check.due(bag + " of " + due + ", least", x.weight(bag, due - off), 1);
-    Check.due(bag + " of " + due + ", too little", x.weight(bag, due - off - 1), 0);
-  }
-
-  private static void empty() {
-    BagRows x = Check.withKinds(0, 1, 2, 3);
-    weighs(x, 1001, 100);
-    weighs(x, 1002, 200);
-    weighs(x, 1003, 300);
-    weighs(x, 1004, 400);
-  }
-
-  private static void items() {
-    int[] items = {1, 49, 50, 51, 99, 100, 999};
-    int[] weights = {15, 495, 5, 15, 495, 5, 495};
+  private static void fiftiethAway() {
+    Check.sentence("1; 0 if what is measured is more than a fiftieth of its weight away");
     BagRows x = Check.withKinds(0);
-    long sum = 100;
-    for (int i = 0; i < items.length; i++) {
-      Check.due("into(1001, " + items[i] + ")", x.into(1001, items[i]), 1);
-      sum += weights[i];
-      weighs(x, 1001, sum);
+    long[] right = {98, 99, 100, 101, 102};
+    long[] wrong = {0, 97, 103, 1000000000};
+    for (long measured : right) {
+      Check.due("weight of 100 is " + measured, x.weight(1001, measured), 1);
     }
-    Check.due("take(49)", x.take(49), 1001);
-    weighs(x, 1001, sum - 495);
-  }
-
-  private static void allThatLiesInIt() {
-    BagRows x = Check.withKinds(0, 1, 2, 3, 0);
-    Check.due("into(1001, 4)", x.into(1001, 4), 1);
-    Check.due("into(1002, 1001)", x.into(1002, 1001), 1);
-    Check.due("into(1002, 3)", x.into(1002, 3), 1);
-    Check.due("into(1003, 1002)", x.into(1003, 1002), 1);
-    Check.due("into(1003, 1005)", x.into(1003, 1005), 1);
-    Check.due("into(1004, 1003)", x.into(1004, 1003), 1);
-    weighs(x, 1001, 145);
-    weighs(x, 1002, 380);
-    weighs(x, 1003, 780);
-    weighs(x, 1004, 1180);
-    weighs(x, 1005, 100);
-  }
-
-  private static void whileClosedOrInside() {
-    BagRows x = Check.withKinds(0, 3);
-    Check.due("into(1001, 7)", x.into(1001, 7), 1);
-    Check.due("into(1002, 1001)", x.into(1002, 1001), 1);
-    Check.due("close(1002)", x.close(1002, 1, 0), 1);
-    weighs(x, 1001, 175);
-    weighs(x, 1002, 575);
-  }
-
-  private static void notes() {
-    BagRows x = Check.withKinds(0);
-    Check.due("wrong", x.weight(1001, 0), 0);
-    Check.due("right", x.weight(1001, 100), 1);
-    Check.due("outside", x.weight(1001, -1), BagRows.OUTSIDE);
-    Check.due("wrong", x.weight(1001, 1000000000L), 0);
-    Check.due("two notes", x.tick(100), 2);
-  }
-
-  private static void refusals() {
-    BagRows x = Check.withKinds(0);
-    int[] none = {0, 1, 999, 1000, 1002, 1061, Integer.MIN_VALUE, Integer.MAX_VALUE};
-    for (int number : none) {
-      Check.due("weight(" + number + ", -1)", x.weight(number, -1), BagRows.UNKNOWN);
+    for (long measured : wrong) {
+      Check.due("weight of 100 is " + measured, x.weight(1001, measured), 0);
     }
-    Check.due("-1", x.weight(1001, -1), BagRows.OUTSIDE);
-    Check.due("10^9 + 1", x.weight(1001, 1000000001L), BagRows.OUTSIDE);
-    Check.due("2^32 + 100", x.weight(1001, 4294967396L), BagRows.OUTSIDE);
-    Check.due("least", x.weight(1001, Long.MIN_VALUE), BagRows.OUTSIDE);
-    Check.due("greatest", x.weight(1001, Long.MAX_VALUE), BagRows.OUTSIDE);
-    Check.due("0", x.weight(1001, 0), 0);
-    Check.due("10^9", x.weight(1001, 1000000000L), 0);
+    Check.due("tick(100), a note for each that was wrong", x.tick(100), wrong.length);
+  }
+
+  private static void fiftiethIsCut() {
+    Check.sentence("a fiftieth (cut) of its weight");
+    BagRows x = Check.withKinds(0);
+    // 4 weighs 45: 145, of which a fiftieth is 2.9.
+    Check.into(x, 1001, 4);
+    Check.due("143", x.weight(1001, 143), 1);
+    Check.due("142", x.weight(1001, 142), 0);
+    Check.due("147", x.weight(1001, 147), 1);
+    Check.due("148", x.weight(1001, 148), 0);
+    // 50 weighs 5: 150, of which a fiftieth is 3.
+    Check.into(x, 1001, 50);
+    Check.due("147", x.weight(1001, 147), 1);
+    Check.due("146", x.weight(1001, 146), 0);
+    Check.due("153", x.weight(1001, 153), 1);
+    Check.due("154", x.weight(1001, 154), 0);
+  }
+
+  private static void closedOrInAnother() {
+    Check.sentence("A receptacle is weighed");
+    BagRows x = Check.nested();
+    Check.into(x, 1001, 7);
+    Check.close(x, 1001);
+    Check.weighs(x, 1001, 175);
+    Check.close(x, 1004);
+    Check.weighs(x, 1001, 175);
+    Check.weighs(x, 1002, 375);
+    Check.weighs(x, 1004, 1075);
+  }
+
+  private static void unknown() {
+    Check.sentence("weight: UNKNOWN");
+    BagRows x = Check.withKinds(0);
+    for (int number : Unknown.receptacles()) {
+      Check.due("weight(" + number + ", 100)", x.weight(number, 100), BagRows.UNKNOWN);
+    }
+  }
+
+  private static void measuredOutside() {
+    Check.sentence("OUTSIDE (measured is not 0 .. 10^9)");
+    BagRows x = Check.withKinds(0);
+    long[] outside = {
+      -1, -100, 1000000001L, 4294967296L, 4294967396L, -4294967196L, Long.MIN_VALUE, Long.MAX_VALUE
+    };
+    for (long measured : outside) {
+      Check.due("weight(1001, " + measured + ")", x.weight(1001, measured), BagRows.OUTSIDE);
+    }
+    Check.due("tick(100), no notes", x.tick(100), 0);
+    Check.due("weight(1001, 0)", x.weight(1001, 0), 0);
+    Check.due("weight(1001, 10^9)", x.weight(1001, 1000000000L), 0);
   }
 }

@@ -1,68 +1,78 @@
 /** Promise 14: tick sets the time and counts the notes that have come due. */
 public final class Promise14TickTest {
+  private static final long LAST_TIME = 1000000000000L;
+
   public static void main(String[] args) {
-    edgesOfTime();
-    dueAHundredBehind();
-    eachSortOfNote();
-    manyNotes();
+    sinceTheTickBefore();
+    belowTheTime();
+    aboveTheLast();
+    notesAtTheLastTime();
+    upToTheLastCall();
     Check.end();
   }
 
-  private static void edgesOfTime() {
-    BagRows x = new BagRows();
-    Check.due("tick(-1)", x.tick(-1), BagRows.OUTSIDE);
-    Check.due("tick(least)", x.tick(Long.MIN_VALUE), BagRows.OUTSIDE);
-    Check.due("tick(greatest)", x.tick(Long.MAX_VALUE), BagRows.OUTSIDE);
-    Check.due("tick(10^12 + 1)", x.tick(1000000000001L), BagRows.OUTSIDE);
-    Check.due("tick(0)", x.tick(0), 0);
-    Check.due("tick(7)", x.tick(7), 0);
-    Check.due("tick(6)", x.tick(6), BagRows.OUTSIDE);
-    Check.due("tick(7) again", x.tick(7), 0);
-    Check.due("tick(10^12)", x.tick(1000000000000L), 0);
-    Check.due("tick(10^12) again", x.tick(1000000000000L), 0);
-    Check.due("tick(10^12 - 1)", x.tick(999999999999L), BagRows.OUTSIDE);
+  private static void wrongWeighings(BagRows x, int many) {
+    for (int i = 0; i < many; i++) {
+      Check.due("weight(1001, 0)", x.weight(1001, 0), 0);
+    }
   }
 
-  private static void dueAHundredBehind() {
+  private static void sinceTheTickBefore() {
+    Check.sentence("It is another time: how many NOTES have come due since the tick before");
     BagRows x = Check.withKinds(0);
     Check.due("tick(5)", x.tick(5), 0);
-    Check.due("wrong at 5", x.weight(1001, 0), 0);
-    Check.due("wrong at 5", x.weight(1001, 0), 0);
+    wrongWeighings(x, 2);
     Check.due("tick(60)", x.tick(60), 0);
-    Check.due("wrong at 60", x.weight(1001, 0), 0);
+    wrongWeighings(x, 1);
     Check.due("tick(104)", x.tick(104), 0);
-    Check.due("tick(10^12 + 1), refused", x.tick(1000000000001L), BagRows.OUTSIDE);
     Check.due("tick(105)", x.tick(105), 2);
     Check.due("tick(105) again", x.tick(105), 0);
     Check.due("tick(159)", x.tick(159), 0);
-    Check.due("wrong at 159", x.weight(1001, 0), 0);
-    Check.due("tick(300)", x.tick(300), 2);
-    Check.due("tick(1000)", x.tick(1000), 0);
+    wrongWeighings(x, 3);
+    Check.due("tick(300)", x.tick(300), 4);
+    Check.due("tick(10^12)", x.tick(LAST_TIME), 0);
   }
 
-  private static void eachSortOfNote() {
-    BagRows x = Check.withKinds(0);
-    Check.due("into(1001, 1)", x.into(1001, 1), 1);
-    Check.due("close", x.close(1001, 1, 0), 1);
-    Check.due("another seal", x.open(1001, 2, 1, -1), -1);
-    Check.due("tick(1)", x.tick(1), 0);
-    Check.due("an extra thing", x.found(1001, 2), 0);
-    Check.due("on the list", x.found(1001, 1), 1);
-    Check.due("tick(2)", x.tick(2), 0);
-    Check.due("a wrong weighing", x.weight(1001, 0), 0);
-    Check.due("close", x.close(1001, 1, 0), 2);
-    Check.due("the seal", x.open(1001, 1, 1, -1), 1);
-    Check.due("tick(100)", x.tick(100), 1);
-    Check.due("tick(101)", x.tick(101), 1);
-    Check.due("tick(102)", x.tick(102), 1);
-    Check.due("tick(10^12)", x.tick(1000000000000L), 0);
+  private static void belowTheTime() {
+    Check.sentence("OUTSIDE (t is below the time");
+    BagRows x = new BagRows();
+    Check.due("tick(-1)", x.tick(-1), BagRows.OUTSIDE);
+    Check.due("tick(the least)", x.tick(Long.MIN_VALUE), BagRows.OUTSIDE);
+    Check.due("tick(0)", x.tick(0), 0);
+    Check.due("tick(7)", x.tick(7), 0);
+    Check.due("tick(6)", x.tick(6), BagRows.OUTSIDE);
+    Check.due("tick(0)", x.tick(0), BagRows.OUTSIDE);
+    Check.due("tick(7), the time", x.tick(7), 0);
+    Check.due("tick(2^32)", x.tick(4294967296L), 0);
+    Check.due("tick(2^32 - 1)", x.tick(4294967295L), BagRows.OUTSIDE);
   }
 
-  private static void manyNotes() {
+  private static void aboveTheLast() {
+    Check.sentence("or above 10^12)");
+    BagRows x = new BagRows();
+    Check.due("tick(10^12 + 1)", x.tick(LAST_TIME + 1), BagRows.OUTSIDE);
+    Check.due("tick(the greatest)", x.tick(Long.MAX_VALUE), BagRows.OUTSIDE);
+    Check.due("tick(10^12)", x.tick(LAST_TIME), 0);
+    Check.due("tick(10^12) again", x.tick(LAST_TIME), 0);
+    Check.due("tick(10^12 - 1)", x.tick(LAST_TIME - 1), BagRows.OUTSIDE);
+    Check.due("tick(10^12 + 100)", x.tick(LAST_TIME + 100), BagRows.OUTSIDE);
+  }
+
+  private static void notesAtTheLastTime() {
+    Check.sentence("a note that comes less than 100 before the last time never comes due");
     BagRows x = Check.withKinds(0);
-    for (int i = 0; i < 510; i++) {
-      Check.due("wrong", x.weight(1001, i >= 90 ? i + 1000 : i), 0);
-    }
+    Check.due("tick(10^12 - 100)", x.tick(LAST_TIME - 100), 0);
+    wrongWeighings(x, 1);
+    Check.due("tick(10^12 - 99)", x.tick(LAST_TIME - 99), 0);
+    wrongWeighings(x, 1);
+    Check.due("tick(10^12)", x.tick(LAST_TIME), 1);
+    Check.due("tick(10^12) again", x.tick(LAST_TIME), 0);
+  }
+
+  private static void upToTheLastCall() {
+    Check.sentence("An object is used for at most 512 calls after it has been made");
+    BagRows x = Check.withKinds(0);
+    wrongWeighings(x, 510);
     Check.due("tick(100), the 512th call", x.tick(100), 510);
   }
 }
